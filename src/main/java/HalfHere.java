@@ -14,7 +14,9 @@ public final class HalfHere {
     private static final int MOST_WORKS = 6;
     private static final int MOST_PARTS = 24;
     private static final int GIFTS = 3;
+    private static final int STRENGTH = 0;
     private static final int WITS = 1;
+    private static final int VOICE = 2;
     private static final int LONGEST = 600;
     private static final int ROW_MOST = 12;
 
@@ -656,17 +658,17 @@ public final class HalfHere {
             switch (first) {
                 case 'n':
                     reading++;
-                    return readDigit() && readSign(';');
+                    return readNumber(1) && readSign(';');
                 case 'w':
                     reading++;
-                    return readDigit() && readDigit() && readSign(',')
+                    return readNumber(1) && readNumber(1) && readSign(',')
                         && readNumber(2) && readSign(';');
                 case 'p':
                     reading++;
                     return readThree(2) && readNumber(2) && readSign(';');
                 case 'k':
                     reading++;
-                    return readKind() && readDigit() && readThree(3)
+                    return readKind() && readNumber(1) && readThree(3)
                         && readNumber(2) && readSign(';');
                 default:
                     return false;
@@ -694,11 +696,7 @@ public final class HalfHere {
         }
 
         boolean isAtDigit() {
-            return letter() >= '0' && letter() <= '9';
-        }
-
-        boolean readDigit() {
-            return readNumber(1);
+            return reading >= 0 && reading < length && letters[reading] >= '0' && letters[reading] <= '9';
         }
 
         boolean readNumber(int mostDigits) {
@@ -1111,24 +1109,23 @@ public final class HalfHere {
             helpers |= 1 << person;
         }
 
+        /** One of the person is there, and gives what its kind of work takes. */
         void add(int person, Person who, int twelfths, int tired) {
-            stand(person);
+            helpers |= 1 << person;
             if (tired > TOO_TIRED || twelfths < LEAST_TO_GIVE[kind]) {
                 return;
             }
-            for (int i = 0; i < GIFTS; i++) {
-                given[i] += giftFor(who, i, tired) * twelfths;
+            int strength = who.gifts[STRENGTH];
+            if (kind == Work.HARD) {
+                strength = strength > tired ? strength - tired : 0;
             }
-        }
-
-        int giftFor(Person who, int gift, int tired) {
-            if (kind == Work.SKILL && gift == WITS) {
-                return 2 * who.gifts[gift];
+            int wits = who.gifts[WITS];
+            if (kind == Work.SKILL) {
+                wits = 2 * wits;
             }
-            if (kind == Work.HARD && gift == 0) {
-                return Math.max(0, who.gifts[gift] - tired);
-            }
-            return who.gifts[gift];
+            given[STRENGTH] += strength * twelfths;
+            given[WITS] += wits * twelfths;
+            given[VOICE] += who.gifts[VOICE] * twelfths;
         }
 
         /** What is done of one thing. */
@@ -1199,8 +1196,13 @@ public final class HalfHere {
                 case EVEN:
                     makeEven(in);
                     break;
+                case NEED:
+                    makeNeed(in, false);
+                    break;
+                case SPARE:
+                    makeNeed(in, true);
+                    break;
                 default:
-                    makeNeed(in, kind == SPARE);
                     break;
             }
         }

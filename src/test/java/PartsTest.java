@@ -14,6 +14,7 @@ public final class PartsTest {
         toil();
         rest();
         lose();
+        numbersAnew();
         Kit.end("PartsTest");
     }
 
@@ -201,6 +202,10 @@ public final class PartsTest {
         Kit.due("one minute", x.toil(2, 1), 26);
         Kit.due("the longest", x.toil(2, 600), 1466);
         Kit.due("clock, too", x.partOf(2, 4), 611);
+        HalfHere thin = Kit.told("p1,1,1,1;kp00,0,0,1;");
+        thin.split(0, 1);
+        thin.at(1, 0);
+        Kit.due("one twelfth", thin.toil(1, 7), 84);
         Kit.due("0", x.toil(1, 0), -4);
         Kit.due("below", x.toil(1, -5), -4);
         Kit.due("601", x.toil(1, 601), -6);
@@ -249,5 +254,22 @@ public final class PartsTest {
         Kit.due("3 and 4", x.join(0, 1), 7);
         Kit.due("-1", x.count(11), 4);
         Kit.due("persons stay", x.count(1), 2);
+    }
+
+    /** A number that was another's before has nothing of that. */
+    private static void numbersAnew() {
+        HalfHere x = Kit.told("w01,10;p12,6,3,3;p20,0,9,4;kp110,2,0,7;");
+        x.go(1, 1);
+        x.see(1);
+        x.at(1, 0);
+        x.toil(1, 50);
+        x.lose(1);
+        Kit.tell(x, "p1,1,1,1;");
+        int[] due = {2, 12, 0, -9, 0, 0, 0};
+        for (int what = 0; what <= 6; what++) {
+            Kit.due("anew, " + what, x.partOf(1, what), due[what]);
+        }
+        x.lose(0);
+        Kit.due("nobody at it", x.does(0, 0), 0);
     }
 }

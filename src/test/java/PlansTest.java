@@ -19,6 +19,8 @@ public final class PlansTest {
         plansAreInMind();
         planRefused();
         best();
+        askedAlone();
+        bestOfThree();
         bestTies();
         bestBelowLeast();
         bestAfterChanges();
@@ -175,6 +177,22 @@ public final class PlansTest {
             "three", 17, "0 4 0;4 0 0;2 0 0;");
         quartered(Kit.told("p20,0,0,1;p10,0,0,1;p0,9,0,1;", "kt015,6,0,9;kl020,0,0,8;kh018,0,0,7;"),
             "three, of kinds", 17, "0 4 0;4 0 0;2 0 0;");
+    }
+
+    /** Each call on its own, with nothing asked before it. */
+    private static void askedAlone() {
+        Kit.due("planned alone", Kit.told("p10,0,0,1;kp05,0,0,2;").planned(NEED, 0, 0), 6);
+        Kit.due("quarters alone", Kit.told("p10,0,0,1;kp05,0,0,2;").quarters(0, 0), 2);
+        HalfHere x = Kit.told("p10,0,0,1;kp05,0,0,2;");
+        x.plan(WHOLES);
+        Kit.due("planned by another plan", x.planned(SPARE, 0, 0), 6);
+        x = Kit.told("w01,5;p1,1,1,1;");
+        Kit.due("together alone", x.together(0, 1), 0);
+    }
+
+    private static void bestOfThree() {
+        quartered(Kit.told("p20,9,0,1;p9,8,20,1;p0,6,30,1;", "kp015,0,10,9;kt05,5,5,8;ks00,9,9,7;"),
+            "all three by three", 24, "2 1 0;3 0 0;0 1 3;");
     }
 
     private static void bestTies() {

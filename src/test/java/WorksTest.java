@@ -10,6 +10,7 @@ public final class WorksTest {
         two();
         skill();
         hard();
+        thin();
         tooTired();
         well();
         refused();
@@ -103,6 +104,22 @@ public final class WorksTest {
         does(x, "tired above strength", 0, 40, 16);
         x.split(0, 1);
         does(x, "seven", 0, 0, 0);
+    }
+
+    /** What one twelfth and eleven give, by the kind. */
+    private static void thin() {
+        String[] kinds = {"p", "w", "l", "t", "s", "h"};
+        int[][] due = {{10, 5, 2}, {0, 0, 0}, {0, 0, 0}, {10, 5, 2}, {10, 10, 2}, {0, 0, 0}};
+        int[][] most = {{110, 55, 22}, {0, 0, 0}, {110, 55, 22}, {110, 55, 22}, {110, 110, 22}, {110, 55, 22}};
+        for (int i = 0; i < kinds.length; i++) {
+            HalfHere x = Kit.told("p10,5,2,1;k" + kinds[i] + "00,0,0,1;");
+            x.split(0, 1);
+            x.at(1, 0);
+            does(x, "one twelfth, " + kinds[i], due[i][0], due[i][1], due[i][2]);
+            x.at(1, -1);
+            x.at(0, 0);
+            does(x, "eleven, " + kinds[i], most[i][0], most[i][1], most[i][2]);
+        }
     }
 
     private static void tooTired() {
