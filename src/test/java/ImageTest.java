@@ -25,10 +25,12 @@ public final class ImageTest {
     }
 
     private static void image() {
+        String before = Kit.shown(busy());
+        HalfHere taken = busy();
+        taken.image();
+        Kit.due("nothing by it", Kit.shown(taken), before);
         HalfHere x = busy();
-        String before = Kit.shown(x);
         Kit.due("three parts", x.image(), 3);
-        Kit.due("nothing by it", Kit.shown(x), before);
         Kit.tell(x, "n6;w01,3;w35,60;p1,2,3,4;kh59,9,9,9;");
         x.toil(0, 60);
         x.go(0, 5);
@@ -55,19 +57,21 @@ public final class ImageTest {
     }
 
     private static void onAgain() {
-        HalfHere x = busy();
-        x.image();
-        String before = Kit.shown(x);
-        for (int i = 0; i < 3; i++) {
-            x.lose(i);
-            x.toil(0, 9);
-            Kit.tell(x, "n5;p9,9,9,9;kp29,9,9,9;");
-            Kit.due("on", x.on(), 3);
-            Kit.due("as then, again", Kit.shown(x), before);
+        String before = Kit.shown(busy());
+        for (int times = 1; times <= 3; times++) {
+            HalfHere x = busy();
+            x.image();
+            for (int i = 0; i < times; i++) {
+                x.lose(i);
+                x.toil(0, 9);
+                Kit.tell(x, "n5;p9,9,9,9;kp29,9,9,9;");
+                Kit.due("on", x.on(), 3);
+            }
+            Kit.due("as then, " + times + " times", Kit.shown(x), before);
+            x.rest(0, 100);
+            x.on();
+            Kit.due("the image does not go on with it", Kit.shown(x), before);
         }
-        x.rest(0, 100);
-        x.on();
-        Kit.due("the image does not go on with it", Kit.shown(x), before);
         HalfHere empty = new HalfHere();
         empty.image();
         Kit.tell(empty, "n6;w01,1;p1,1,1,1;kp00,0,0,0;");

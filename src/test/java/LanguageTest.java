@@ -138,12 +138,18 @@ public final class LanguageTest {
     /** The dearest calls make no object: what a run takes is taken by its constructor. */
     private static void room() {
         com.sun.management.ThreadMXBean threads = (com.sun.management.ThreadMXBean) ManagementFactory.getThreadMXBean();
-        HalfHere x = Kit.told("w01,1;p9,9,9,1;p8,8,8,1;p7,7,7,1;", "kp07,7,7,1;kt09,9,9,2;kw08,8,8,3;");
-        everyCall(x);
+        HalfHere[] all = new HalfHere[20];
+        for (int i = 0; i < all.length; i++) {
+            all[i] = Kit.told("w01,1;p9,9,9,1;p8,8,8,1;p7,7,7,1;", "kp07,7,7,1;kt09,9,9,2;kw08,8,8,3;");
+            everyCall(all[i]);
+        }
         long me = Thread.currentThread().getId();
         long before = threads.getThreadAllocatedBytes(me);
-        for (int i = 0; i < 100; i++) {
-            everyCall(x);
+        for (HalfHere x : all) {
+            // Five times and what was told stay within the 512 calls of an object.
+            for (int i = 0; i < 5; i++) {
+                everyCall(x);
+            }
         }
         long made = threads.getThreadAllocatedBytes(me) - before;
         Kit.due("bytes made by 100 times every call, above 100000", made > 100000 ? made : 0, 0);

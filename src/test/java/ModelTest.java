@@ -61,19 +61,19 @@ public final class ModelTest {
 
     /** One that is there more often than not. */
     private int aPerson() {
-        return below(Math.max(1, x.count(1)) + (random.nextInt(20) == 0 ? 1 : 0));
+        return below(Math.max(1, model.count(1)) + (random.nextInt(20) == 0 ? 1 : 0));
     }
 
     private int aWork() {
-        return below(Math.max(1, x.count(2)) + (random.nextInt(20) == 0 ? 1 : 0));
+        return below(Math.max(1, model.count(2)) + (random.nextInt(20) == 0 ? 1 : 0));
     }
 
     private int aPart() {
-        return below(Math.min(24, x.count(3) + 2));
+        return below(Math.min(24, model.count(3) + 2));
     }
 
     private int aPlace() {
-        return below(x.count(0) + (random.nextInt(20) == 0 ? 1 : 0));
+        return below(model.count(0) + (random.nextInt(20) == 0 ? 1 : 0));
     }
 
     private void tell(String letters) {
