@@ -102,6 +102,16 @@ final class BoundaryOfParts {
         for (int what = 0; what <= 6; what++) {
             Boundary.past("then partOf(0, " + what + ")", x.partOf(0, what), then[what]);
         }
+        Kit.tell(x, "w02,5;kp20,0,0,1;");
+        x.go(0, 2);
+        x.at(0, 1);
+        x.toil(0, 9);
+        x.lose(0);
+        Kit.tell(x, "p1,1,1,1;");
+        int[] anew = {1, 12, 0, -9, 0, 0, 0};
+        for (int what = 0; what <= 6; what++) {
+            Boundary.to("partOf(0, " + what + "), the number anew", x.partOf(0, what), anew[what]);
+        }
     }
 
     private static void leastFreeNumber() {

@@ -207,6 +207,15 @@ final class BoundaryOfPlans {
     private static void plan() {
         Boundary.sentence(18, "WORTH of a PLAN. -2.");
         HalfHere x = Boundary.after(Boundary::busy);
+        HalfHere six = Kit.told("p1,0,0,1;p1,0,0,1;p1,0,0,1;", "p1,0,0,1;p1,0,0,1;p1,0,0,1;");
+        Kit.tell(six, "kp01,0,0,1;kp01,0,0,2;kp01,0,0,4;");
+        Kit.tell(six, "kp01,0,0,8;kp01,0,0,16;kp02,0,0,32;");
+        int[] worth = {31, 31, 31, 31};
+        for (int kind = WHOLES; kind <= SPARE; kind++) {
+            Boundary.to("plan(" + kind + "), six PERSONS, six WORKS", six.plan(kind), worth[kind]);
+        }
+        HalfHere idle = Kit.told("p0,0,0,1;kp01,0,0,1;kp01,0,0,2;kp01,0,0,4;", "kp01,0,0,8;kp01,0,0,16;kp01,0,0,32;");
+        Boundary.to("plan(0), one who HELPS none of six WORKS", idle.plan(WHOLES), 0);
         Boundary.to("plan(0)", x.plan(WHOLES), 15);
         Boundary.to("plan(3)", x.plan(SPARE), 15);
         for (int none : NO_KINDS) {
@@ -352,6 +361,12 @@ final class BoundaryOfPlans {
     private static void best() {
         Boundary.sentence(20, "WORTH of BEST. -6 more than 3 PERSONS, WORKS.");
         Boundary.to("none", new HalfHere().best(), 0);
+        HalfHere grows = Kit.told("p10,0,0,1;p10,0,0,1;kp010,0,0,1;");
+        Boundary.to("one WORK", areQuarters(grows, "0;4; 1"), 1);
+        Kit.tell(grows, "kp010,0,0,2;");
+        Boundary.to("two WORKS", areQuarters(grows, "0 4;4 0; 3"), 1);
+        Kit.tell(grows, "kp05,0,0,4;");
+        Boundary.to("three WORKS", areQuarters(grows, "0 0 2;0 4 0; 6"), 1);
         Boundary.to("three PERSONS", Kit.told("p1,1,1,1;p1,1,1,1;p1,1,1,1;").best(), 0);
         Boundary.to("three WORKS", Kit.told("kp00,0,0,1;kp00,0,0,1;kp00,0,0,1;").best(), 3);
         Boundary.refused("four PERSONS, no WORK", x -> Kit.tell(x, "p1,1,1,1;p1,1,1,1;p1,1,1,1;p1,1,1,1;"), HalfHere::best, -6);

@@ -367,6 +367,7 @@ final class BoundaryOfTelling {
         HalfHere x = Boundary.after(BoundaryOfTelling::sixWorks);
         Boundary.to("count(2)", x.count(2), 6);
         Boundary.to("work(5, 5)", x.work(5, 5), 6);
+        Boundary.told(1, BoundaryOfTelling::sixWorks, "n1;");
         Boundary.fault(-2000, BoundaryOfTelling::sixWorks, "kp00,0,0,7;");
         Boundary.fault(-2011, BoundaryOfTelling::fiveWorks, "kp00,0,0,6;kp00,0,0,7;");
     }
