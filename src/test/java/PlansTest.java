@@ -226,6 +226,12 @@ public final class PlansTest {
         quartered(x, "lost", 11, "0 4;4 0;");
         x.on();
         quartered(x, "on from the image", 5, "4;");
+        x = Kit.told("p10,0,0,1;kp0200,0,0,5;");
+        x.image();
+        Kit.tell(x, "kp010,0,0,6;");
+        quartered(x, "one of two can be done", 6, "0 4;");
+        x.on();
+        quartered(x, "on from where none can be done", 0, "0;");
     }
 
     private static void bestRefused() {
